@@ -931,7 +931,7 @@ public final class DiagramOdds {
             int found = 1;
             queue[0] = root;
             numbers[root] = 2;
-            for (int i = 0; i < found; i++) {
+            for (int i = 0; i < found && i < queue.length; i++) {
                 int node = queue[i];
                 for (int value = 0; value < choices.sizeOf(variables[node]); value++) {
                     int kid = kids[node * MOST_VALUES + value];

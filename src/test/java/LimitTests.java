@@ -1,0 +1,97 @@
+import java.lang.management.ManagementFactory;
+import java.util.Random;
+
+/** The largest objects that the document allows, and what a run of calls takes of the room. */
+public final class LimitTests {
+    /** A run may have some 600,000 objects and 7.3 million elements: a tenth of that is far from the edge. */
+    private static final long MOST_BYTES_OF_A_RUN = 3000000;
+
+    private LimitTests() { }
+
+    /** A function without any pattern: an odd number of products of variables. */
+    static String tangle(Random random, int[] sizes, int bytes) {
+        StringBuilder text = new StringBuilder();
+        while (text.length() < bytes) {
+            if (text.length() > 0) text.append('^');
+            text.append(random.nextInt(4) == 0 ? "!" : "");
+            for (int i = random.nextInt(5); i >= 0; i--) {
+                int v = random.nextInt(sizes.length);
+                text.append('#').append(v);
+                if (sizes[v] > 2) text.append('=').append(random.nextInt(sizes[v]));
+                if (i > 0) text.append('&');
+            }
+        }
+        return text.toString();
+    }
+
+    static String name(int i) { return "" + (char) ('a' + i / 26) + (char) ('a' + i % 26); }
+
+    static void largest(int[] sizes, long seed) {
+        Random random = new Random(seed);
+        DiagramOdds x = new DiagramOdds();
+        Oracle o = new Oracle();
+        for (int size : sizes) {
+            x.choice(size);
+            o.choice(size);
+        }
+        for (int i = 0; i < 40; i++) {
+            String text = name(i) + ":" + tangle(random, sizes, 340) + ";";
+            Check.due("read " + text, Check.read(x, text), 1);
+            o.tape = text;
+            o.read();
+        }
+        Check.due("a 41st function", x.not(0), DiagramOdds.ROOM);
+        Check.due("a 41st name", Check.read(x, " new: true;"), -1001);
+        Check.due("its fault", x.fault(), 5);
+        Check.due("size of all", x.size(-1), o.size(-1));
+        for (int i = 0; i < 6; i++) {
+            int v = random.nextInt(sizes.length), to = random.nextInt(sizes.length);
+            Check.due("move", x.move(v, to), o.move(v, to));
+            Check.due("a size", x.size(i), o.size(i));
+            Check.due("ways", x.ways(i), o.ways(i));
+        }
+        Check.due("print", x.print(7), o.print(7));
+        for (int i = 0; i < o.printed.length(); i++) {
+            if (x.printed(i) != o.printed(i)) Check.due("printed " + i, x.printed(i), o.printed(i));
+        }
+        for (int i = 0; i < 40; i++) Check.due("runs", x.runs(i), o.runs(i));
+        // The oracle takes too long for a search of so much: what cannot change by one is looked at instead.
+        int before = x.size(-1);
+        int after = x.seek();
+        Check.due("seek makes nothing larger", after <= before ? 1 : 0, 1);
+        for (int v = 0; v < sizes.length; v++) o.order.set(x.place(v), v);
+        Check.due("size behind seek", after, o.size(-1));
+        for (int i = 0; i < 40; i++) Check.due("runs behind seek", x.runs(i), o.runs(i));
+    }
+
+    /** As many of the dearest calls as there may be, on a fresh object. */
+    static long bytesOfARun(Random random) {
+        com.sun.management.ThreadMXBean bean = (com.sun.management.ThreadMXBean) ManagementFactory.getThreadMXBean();
+        int[] sizes = {2, 2, 2, 2, 2, 2, 2, 2, 2, 2};
+        String[] texts = new String[40];
+        for (int i = 0; i < 40; i++) texts[i] = name(i) + ":" + tangle(random, sizes, 340) + ";";
+        long thread = Thread.currentThread().getId();
+        long before = bean.getThreadAllocatedBytes(thread);
+        DiagramOdds x = new DiagramOdds();
+        for (int size : sizes) x.choice(size);
+        for (int i = 0; i < 40; i++) Check.read(x, texts[i]);
+        for (int i = 0; i < 100; i++) {
+            x.seek();
+            x.print(i % 40);
+            x.best(i % 40);
+            x.move(i % 10, i * 7 % 10);
+        }
+        return bean.getThreadAllocatedBytes(thread) - before;
+    }
+
+    public static void main(String[] args) {
+        largest(new int[] {2, 2, 2, 2, 2, 2, 2, 2, 2, 2}, 1);
+        largest(new int[] {4, 4, 4, 4, 4}, 2);
+        largest(new int[] {6, 5, 4, 3, 2}, 3);
+        largest(new int[] {6, 6, 6, 4}, 4);
+        largest(new int[] {2, 2, 2, 2, 2, 5, 6}, 5);
+        long bytes = bytesOfARun(new Random(6));
+        Check.due("bytes of a run: " + bytes, bytes < MOST_BYTES_OF_A_RUN ? 1 : 0, 1);
+        Check.finish("limits");
+    }
+}
