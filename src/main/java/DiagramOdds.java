@@ -239,7 +239,7 @@ public final class DiagramOdds {
 
     public int told(int variable) {
         if (!choices.has(variable)) return UNKNOWN;
-        // A later variable's stride lies above toldRun, so that the test is on the count, not on the run.
+        // A variable that came later would seem to be 0 in that run, so that the count must tell.
         if (variable >= toldVariables) return STATE;
         return choices.valueIn(toldRun, variable);
     }
@@ -763,12 +763,15 @@ public final class DiagramOdds {
                 if (wanted[from + value] != wanted[from]) differing++;
             }
             if (differing == 0) return wanted[from];
-            int node = chains[chainOf(variable, size, wanted, from)];
+            int chain = chainOf(variable, size, wanted, from);
+            int node = chains[chain];
             for (int i = 0; node != 0 && i < MOST_NODES; i++) {
                 if (leadsTo(node, from, size)) return node;
                 node = nexts[node];
             }
-            return newNode(variable, from, size);
+            node = newNode(from, size);
+            link(node, variable, chain);
+            return node;
         }
 
         private static int chainOf(int variable, int size, int[] row, int from) {
@@ -784,7 +787,7 @@ public final class DiagramOdds {
             return true;
         }
 
-        private int newNode(int variable, int from, int size) {
+        private int newNode(int from, int size) {
             int node = free;
             if (node != 0) {
                 free = nexts[node];
@@ -798,12 +801,10 @@ public final class DiagramOdds {
             }
             users[node] = 0;
             live++;
-            link(node, variable, size);
             return node;
         }
 
-        private void link(int node, int variable, int size) {
-            int chain = chainOf(variable, size, kids, node * MOST_VALUES);
+        private void link(int node, int variable, int chain) {
             variables[node] = variable;
             nexts[node] = chains[chain];
             chains[chain] = node;
@@ -896,7 +897,7 @@ public final class DiagramOdds {
             }
             for (int value = 0; value < sizeAbove; value++) release(kids[from + value]);
             System.arraycopy(turned, 0, kids, from, sizeBelow);
-            link(node, below, sizeBelow);
+            link(node, below, chainOf(below, sizeBelow, kids, from));
         }
 
         private int turnedKid(int from, int above, int below, int valueBelow) {
@@ -1149,7 +1150,7 @@ public final class DiagramOdds {
 
         private void readDefinition() {
             long name = tape.contents[index];
-            if (token != Tape.NAME) refuseToken();
+            if (token != Tape.NAME) refuse(NOT_HERE, index);
             else if (functions.findName(name) != NONE) refuse(NOT_KNOWN, index);
             else if (functions.isFull()) refuse(TOO_MUCH, index);
             advance();
@@ -1231,7 +1232,7 @@ public final class DiagramOdds {
                     readAtom(at);
                     break;
                 default:
-                    refuseToken();
+                    refuse(NOT_HERE, index);
             }
         }
 
@@ -1281,7 +1282,7 @@ public final class DiagramOdds {
 
         private int readValue(int variable) {
             int value = (int) tape.contents[index];
-            if (token != Tape.NUMBER) refuseToken();
+            if (token != Tape.NUMBER) refuse(NOT_HERE, index);
             else if (!choices.hasValue(variable, value)) refuse(NO_VALUE, index);
             advance();
             return value;
@@ -1300,7 +1301,7 @@ public final class DiagramOdds {
         private int readVariable() {
             expect('#');
             int variable = (int) tape.contents[index];
-            if (token != Tape.NUMBER) refuseToken();
+            if (token != Tape.NUMBER) refuse(NOT_HERE, index);
             else if (!choices.has(variable)) refuse(NOT_KNOWN, index);
             advance();
             return variable;
@@ -1318,17 +1319,14 @@ public final class DiagramOdds {
 
         private void expect(int wanted) {
             if (token == wanted) advance();
-            else refuseToken();
+            else refuse(NOT_HERE, index);
         }
 
-        private void refuseToken() {
-            refuse(token == Tape.NO_TOKEN ? NOT_A_TOKEN : NOT_HERE, index);
-        }
-
+        /** Keeps the first fault. What is no token is never looked for, so that it always comes here as NOT_HERE. */
         private void refuse(int kind, int at) {
             token = STOPPED;
             if (faultKind != 0) return;
-            faultKind = kind;
+            faultKind = kind == NOT_HERE && tape.kinds[at] == Tape.NO_TOKEN ? NOT_A_TOKEN : kind;
             faultPlace = tape.starts[at];
         }
 

@@ -85,6 +85,7 @@ public final class FunctionTests {
         Check.due("7 a bit of none", x.many(16, 1), DiagramOdds.OUTSIDE);
         Check.due("7 the highest bit", x.many(Integer.MIN_VALUE, 1), DiagramOdds.OUTSIDE);
         Check.due("7 all bits", x.many(-1, 0), DiagramOdds.OUTSIDE);
+        Check.due("7 the first bit of no truth", with(3, 2).many(1, 1), DiagramOdds.OUTSIDE);
         fill(x);
         Check.due("7 no room", x.many(1, 1), DiagramOdds.ROOM);
         Check.due("7 OUTSIDE before ROOM", x.many(2, 1), DiagramOdds.OUTSIDE);

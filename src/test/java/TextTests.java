@@ -263,6 +263,63 @@ public final class TextTests {
         Check.due("17 what they are to the right", x.alike(Check.named(x, "j"), 0), 1);
     }
 
+    /** As many rows are held open as a text can hold, each of another function. */
+    static void rows() {
+        DiagramOdds x = with(2, 2, 3);
+        Oracle o = new Oracle();
+        for (int size : new int[] {2, 2, 3}) o.choice(size);
+        String names = "a:#0;b:#1;c:#2=0;d:#2=1;e:#0^#2=2;g:!#1;";
+        StringBuilder text = new StringBuilder("f:");
+        java.util.Random random = new java.util.Random(5);
+        for (int i = 0; i < 20; i++) {
+            for (String operator : new String[] {"<=>", "=>", "|", "^", "&("}) text.append("abcdeg".charAt(random.nextInt(6))).append(operator);
+        }
+        text.append("a<=>b=>c|d^e&g").append(repeat(")", 20)).append(';');
+        for (String one : new String[] {names, text.toString()}) {
+            o.tape = one;
+            Check.due("17 rows held open", Check.read(x, one), o.read());
+        }
+        Check.due("17 what they come to", x.runs(6), o.runs(6));
+        StringBuilder row = new StringBuilder();
+        for (boolean so : o.functions.get(6)) row.append(so ? '1' : '0');
+        Check.due("17 for which runs", FunctionTests.row(x, 6, 2, 2, 3), row.toString());
+    }
+
+    /** Bytes behind the end do not count, whatever they are; and the tape may be full of tokens. */
+    static void edges() {
+        DiagramOdds x = with(2, 2, 2, 2, 2, 2, 2, 2, 2, 2);
+        Check.read(x, "ab:#0;");
+        Check.put(x, "abc");
+        x.end(2);
+        Check.due("19 a name cut", x.named(), 0);
+        Check.put(x, "ab c");
+        x.end(3);
+        Check.due("19 a name behind the end", x.named(), 0);
+        Check.put(x, "c:#01;");
+        x.end(4);
+        Check.due("17 a number cut", x.read(), -1004);
+        Check.due("18 a number cut", x.fault(), 2);
+        Check.put(x, "c:#0a");
+        x.end(4);
+        Check.due("17 a letter behind the end", x.read(), -1004);
+        Check.due("18 a letter behind the end", x.fault(), 2);
+        Check.put(x, "c:ab=>ab;");
+        x.end(5);
+        Check.due("17 => cut", x.read(), -1004);
+        Check.put(x, "c:ab<=>ab;");
+        x.end(6);
+        Check.due("17 <=> cut", x.read(), -1004);
+        Check.due("18 <=> cut", x.fault(), 1);
+        Check.put(x, "c:ab   ");
+        x.end(5);
+        Check.due("17 blanks behind the end", x.read(), -1005);
+        Check.due("17 400 tokens", Check.read(x, repeat(";", 400)), -1000);
+        Check.due("17 400 tokens behind a formula", Check.read(x, "c:#0" + repeat("&#1", 131) + ";" + repeat("(", 2)), -1398);
+        Check.due("17 400 bytes", Check.read(x, "c:#0" + repeat("&#1", 131) + ";  "), 1);
+        Check.due("17 their end", Check.read(x, repeat(" ", 396) + "d:ab"), -1400);
+        Check.due("18 their end", x.fault(), 2);
+    }
+
     static void room() {
         DiagramOdds x = with(2);
         for (int i = 0; i < 38; i++) x.is(0, 1);
@@ -314,6 +371,8 @@ public final class TextTests {
         names();
         faults();
         depth();
+        rows();
+        edges();
         room();
         named();
         Check.finish("texts");
