@@ -494,7 +494,7 @@ public final class DiagramOdds {
         private long[] blank() {
             long[] into = row(count);
             Arrays.fill(into, 0);
-            names[Math.min(count, MOST_FUNCTIONS - 1)] = 0;
+            if (count < MOST_FUNCTIONS) names[count] = 0;
             return into;
         }
 

@@ -283,6 +283,19 @@ public final class TextTests {
         StringBuilder row = new StringBuilder();
         for (boolean so : o.functions.get(6)) row.append(so ? '1' : '0');
         Check.due("17 for which runs", FunctionTests.row(x, 6, 2, 2, 3), row.toString());
+        openRows("a<=>b", "1001");
+        openRows("t<=>a=>b", "1101");
+        openRows("t<=>t=>a|b", "0111");
+        openRows("t<=>t=>z|a^b", "0110");
+        openRows("t<=>t=>z|z^a&b", "0001");
+    }
+
+    /** What stands around is as what stands inside, but holds five rows open at each depth. */
+    private static void openRows(String inside, String row) {
+        DiagramOdds x = with(2, 2);
+        Check.read(x, "a:#0;b:#1;t:true;z:false;");
+        Check.due("17 around " + inside, Check.read(x, "f:" + repeat("t<=>t=>z|z^t&(", 20) + inside + repeat(")", 20) + ";"), 1);
+        Check.due("17 runs around " + inside, FunctionTests.row(x, 4, 2, 2), row);
     }
 
     /** Bytes behind the end do not count, whatever they are; and the tape may be full of tokens. */
@@ -315,6 +328,11 @@ public final class TextTests {
         Check.due("17 blanks behind the end", x.read(), -1005);
         Check.due("17 400 tokens", Check.read(x, repeat(";", 400)), -1000);
         Check.due("17 400 tokens behind a formula", Check.read(x, "c:#0" + repeat("&#1", 131) + ";" + repeat("(", 2)), -1398);
+        Check.due("17 the end behind 400 tokens", Check.read(x, "c:#0" + repeat("&#1", 132)), -1400);
+        Check.due("18 the end behind 400 tokens", x.fault(), 2);
+        Check.due("17 the end where a number should be", Check.read(x, "c:!!#0" + repeat("&#1", 131) + "="), -1400);
+        Check.due("17 the end where a variable should be", Check.read(x, "c:!!#0" + repeat("&#1", 131) + "#"), -1399);
+        Check.due("17 the end behind #", Check.read(x, "c:!#0" + repeat("&#1", 131) + "&#"), -1400);
         Check.due("17 400 bytes", Check.read(x, "c:#0" + repeat("&#1", 131) + ";  "), 1);
         Check.due("17 their end", Check.read(x, repeat(" ", 396) + "d:ab"), -1400);
         Check.due("18 their end", x.fault(), 2);
