@@ -25,7 +25,7 @@ public final class DiagramOdds {
     private final Diagram diagram;
     private final Tape tape;
     private final Reader reader;
-    private final StringBuilder printout;
+    private final Page page;
     private int standing;
     private int toldRun;
     /** How many variables the run that was told has; NONE before any. */
@@ -39,7 +39,7 @@ public final class DiagramOdds {
         diagram = new Diagram(choices);
         tape = new Tape();
         reader = new Reader(tape, choices, functions);
-        printout = new StringBuilder();
+        page = new Page();
         standing = NONE;
         toldVariables = NONE;
     }
@@ -300,13 +300,13 @@ public final class DiagramOdds {
 
     public int print(int function) {
         if (!functions.has(function)) return UNKNOWN;
-        printout.setLength(0);
-        diagram.writeNodes(functions.rootOf(function), printout);
-        return printout.length();
+        page.length = 0;
+        diagram.writeNodes(functions.rootOf(function), page);
+        return page.length;
     }
 
     public int printed(int i) {
-        return i >= 0 && i < printout.length() ? printout.charAt(i) : NONE;
+        return page.byteAt(i);
     }
 
     // ---- the order
@@ -959,26 +959,56 @@ public final class DiagramOdds {
             return sum;
         }
 
-        private void writeNodes(int root, StringBuilder into) {
+        private void writeNodes(int root, Page into) {
             if (!isNode(root)) {
-                into.append(root);
+                into.putNumber(root);
                 return;
             }
             int found = number(root);
             for (int i = 0; i < found; i++) {
-                if (i > 0) into.append(' ');
+                if (i > 0) into.put(' ');
                 writeNode(queue[i], into);
             }
             forget(found);
         }
 
-        private void writeNode(int node, StringBuilder into) {
-            into.append(numbers[node]).append(':').append(variables[node]);
+        private void writeNode(int node, Page into) {
+            into.putNumber(numbers[node]);
+            into.put(':');
+            into.putNumber(variables[node]);
             for (int value = 0; value < choices.sizeOf(variables[node]); value++) {
                 int kid = kids[node * MOST_VALUES + value];
-                into.append(value == 0 ? '(' : ',').append(kid <= YES ? kid : numbers[kid]);
+                into.put(value == 0 ? '(' : ',');
+                into.putNumber(kid <= YES ? kid : numbers[kid]);
             }
-            into.append(')');
+            into.put(')');
+        }
+    }
+
+    /** What was printed. One row for all prints, lest each of them take room. */
+    private static final class Page {
+        /** 1024 runs allow no diagram of 300 nodes, nor of 800 ways from node to node: that is far less. */
+        private static final int MOST_PRINTED = 8192;
+        private static final int HIGHEST_DIGIT = 1000;
+
+        private final int[] bytes = new int[MOST_PRINTED];
+        private int length;
+
+        private void put(int one) {
+            if (length >= MOST_PRINTED) return;
+            bytes[length] = one;
+            length++;
+        }
+
+        private void putNumber(int number) {
+            for (int digit = HIGHEST_DIGIT; digit > 1; digit /= 10) {
+                if (number >= digit) put('0' + number / digit % 10);
+            }
+            put('0' + number % 10);
+        }
+
+        private int byteAt(int i) {
+            return i >= 0 && i < length ? bytes[i] : NONE;
         }
     }
 

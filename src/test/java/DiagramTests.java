@@ -2,10 +2,8 @@
 public final class DiagramTests {
     private DiagramTests() { }
 
-    private static DiagramOdds with(int... sizes) { return FunctionTests.with(sizes); }
-
     static void walk() {
-        DiagramOdds x = with(2, 3, 2);
+        DiagramOdds x = Check.with(2, 3, 2);
         int f = x.join(1, x.join(0, x.is(0, 1), x.is(1, 2)), x.is(2, 1));
         int always = x.many(0, 0), never = x.many(0, 1);
         Check.due("33 nowhere", x.here(), DiagramOdds.NONE);
@@ -34,7 +32,7 @@ public final class DiagramTests {
     }
 
     static void leaving() {
-        DiagramOdds x = with(2, 3);
+        DiagramOdds x = Check.with(2, 3);
         int f = x.compare(0, 1, 1);
         x.enter(f);
         x.not(f);
@@ -64,7 +62,7 @@ public final class DiagramTests {
     }
 
     static void print() {
-        DiagramOdds x = with(2, 3, 2);
+        DiagramOdds x = Check.with(2, 3, 2);
         Check.due("35 before any", x.printed(0), DiagramOdds.NONE);
         int f = x.join(1, x.join(0, x.is(0, 1), x.is(1, 2)), x.is(2, 1));
         Check.due("34 bytes", x.print(f), 28);
@@ -84,13 +82,13 @@ public final class DiagramTests {
         Check.due("34 the other leaf", Check.printed(x, x.many(0, 1)), "0");
         Check.due("35 nothing of what was longer", x.printed(1), DiagramOdds.NONE);
         Check.due("34 a function without the first variable", Check.printed(x, x.is(1, 0)), "2:1(1,0,0)");
-        DiagramOdds y = with(6, 6);
+        DiagramOdds y = Check.with(6, 6);
         Check.due("34 six values", Check.printed(y, y.compare(0, 1, 0)),
             "2:0(3,4,5,6,7,8) 3:1(1,0,0,0,0,0) 4:1(0,1,0,0,0,0) 5:1(0,0,1,0,0,0) 6:1(0,0,0,1,0,0) 7:1(0,0,0,0,1,0) 8:1(0,0,0,0,0,1)");
-        DiagramOdds z = with(2, 2, 2, 2);
+        DiagramOdds z = Check.with(2, 2, 2, 2);
         Check.due("34 of each in the order of numbers", Check.printed(z, z.join(2, z.many(15, 2), z.compare(0, 3, 1))),
             "2:0(3,4) 3:1(5,6) 4:1(7,1) 5:2(8,0) 6:2(0,9) 7:2(8,1) 8:3(0,1) 9:3(1,0)");
-        DiagramOdds w = with(2, 2, 2, 2, 2);
+        DiagramOdds w = Check.with(2, 2, 2, 2, 2);
         Check.due("34 a number of two digits", Check.printed(w, w.many(31, 3)),
             "2:0(3,4) 3:1(5,6) 4:1(6,7) 5:2(0,8) 6:2(8,9) 7:2(9,1) 8:3(0,10) 9:3(10,1) 10:4(0,1)");
     }

@@ -2,49 +2,19 @@
 public final class FunctionTests {
     private FunctionTests() { }
 
-    /** For which runs a function is so, the last variable changing first: read off by fixing each variable in turn. */
-    static String row(DiagramOdds x, int function, int... sizes) {
-        StringBuilder row = new StringBuilder();
-        int[] at = new int[sizes.length];
-        int runs = 1;
-        for (int size : sizes) runs *= size;
-        for (int i = 0; i < runs; i++) {
-            row.append(walk(x, function, at) == -3 ? '1' : '0');
-            for (int v = sizes.length - 1; v >= 0 && ++at[v] == sizes[v]; v--) at[v] = 0;
-        }
-        return row.toString();
-    }
-
-    private static int walk(DiagramOdds x, int function, int[] run) {
-        int at = x.enter(function);
-        for (int i = 0; i < run.length && at >= 0; i++) at = x.down(run[at]);
-        return at;
-    }
-
-    static DiagramOdds with(int... sizes) {
-        DiagramOdds x = new DiagramOdds();
-        for (int size : sizes) x.choice(size);
-        return x;
-    }
-
-    /** Makes functions till there is room for none. */
-    static void fill(DiagramOdds x) {
-        for (int i = 0; i < 40; i++) x.many(0, 0);
-    }
-
     static void is() {
-        DiagramOdds x = with(2, 3);
+        DiagramOdds x = Check.with(2, 3);
         Check.due("5 the first", x.is(1, 2), 0);
-        Check.due("5 row", row(x, 0, 2, 3), "001001");
+        Check.due("5 row", Check.row(x, 0, 2, 3), "001001");
         Check.due("5 the second", x.is(0, 0), 1);
-        Check.due("5 row of a truth", row(x, 1, 2, 3), "111000");
+        Check.due("5 row of a truth", Check.row(x, 1, 2, 3), "111000");
         Check.due("5 no variable", x.is(2, 0), DiagramOdds.UNKNOWN);
         Check.due("5 no variable, below", x.is(-1, 0), DiagramOdds.UNKNOWN);
         Check.due("5 UNKNOWN before OUTSIDE", x.is(2, 7), DiagramOdds.UNKNOWN);
         Check.due("5 no value", x.is(1, 3), DiagramOdds.OUTSIDE);
         Check.due("5 no value, below", x.is(1, -1), DiagramOdds.OUTSIDE);
         Check.due("5 what is refused makes nothing", x.is(1, 0), 2);
-        fill(x);
+        Check.fill(x);
         Check.due("5 no room", x.is(1, 0), DiagramOdds.ROOM);
         Check.due("5 OUTSIDE before ROOM", x.is(1, 3), DiagramOdds.OUTSIDE);
         Check.due("5 UNKNOWN before ROOM", x.is(5, 0), DiagramOdds.UNKNOWN);
@@ -53,25 +23,25 @@ public final class FunctionTests {
     }
 
     static void compare() {
-        DiagramOdds x = with(3, 2);
-        Check.due("6 alike", row(x, x.compare(0, 1, 0), 3, 2), "100100");
-        Check.due("6 less", row(x, x.compare(0, 1, 1), 3, 2), "010000");
-        Check.due("6 less or alike", row(x, x.compare(0, 1, 2), 3, 2), "110100");
-        Check.due("6 the other way round", row(x, x.compare(1, 0, 1), 3, 2), "001011");
-        Check.due("6 one with itself, alike", row(x, x.compare(0, 0, 0), 3, 2), "111111");
-        Check.due("6 one with itself, less", row(x, x.compare(1, 1, 1), 3, 2), "000000");
-        Check.due("6 one with itself, less or alike", row(x, x.compare(1, 1, 2), 3, 2), "111111");
+        DiagramOdds x = Check.with(3, 2);
+        Check.due("6 alike", Check.row(x, x.compare(0, 1, 0), 3, 2), "100100");
+        Check.due("6 less", Check.row(x, x.compare(0, 1, 1), 3, 2), "010000");
+        Check.due("6 less or alike", Check.row(x, x.compare(0, 1, 2), 3, 2), "110100");
+        Check.due("6 the other way round", Check.row(x, x.compare(1, 0, 1), 3, 2), "001011");
+        Check.due("6 one with itself, alike", Check.row(x, x.compare(0, 0, 0), 3, 2), "111111");
+        Check.due("6 one with itself, less", Check.row(x, x.compare(1, 1, 1), 3, 2), "000000");
+        Check.due("6 one with itself, less or alike", Check.row(x, x.compare(1, 1, 2), 3, 2), "111111");
         Check.due("6 no such how", x.compare(0, 1, 3), DiagramOdds.OUTSIDE);
         Check.due("6 no such how, below", x.compare(0, 1, -1), DiagramOdds.OUTSIDE);
         Check.due("6 no first", x.compare(2, 1, 9), DiagramOdds.UNKNOWN);
         Check.due("6 no second", x.compare(0, -1, 9), DiagramOdds.UNKNOWN);
-        fill(x);
+        Check.fill(x);
         Check.due("6 no room", x.compare(0, 1, 0), DiagramOdds.ROOM);
         Check.due("6 OUTSIDE before ROOM", x.compare(0, 1, 3), DiagramOdds.OUTSIDE);
     }
 
     static void many() {
-        DiagramOdds x = with(2, 3, 2, 2);
+        DiagramOdds x = Check.with(2, 3, 2, 2);
         Check.due("7 two of three", x.runs(x.many(13, 2)), 4 * 3);
         Check.due("7 three of three", x.runs(x.many(13, 3)), 3);
         Check.due("7 more than there are", x.runs(x.many(13, 4)), 0);
@@ -85,105 +55,105 @@ public final class FunctionTests {
         Check.due("7 a bit of none", x.many(16, 1), DiagramOdds.OUTSIDE);
         Check.due("7 the highest bit", x.many(Integer.MIN_VALUE, 1), DiagramOdds.OUTSIDE);
         Check.due("7 all bits", x.many(-1, 0), DiagramOdds.OUTSIDE);
-        Check.due("7 the first bit of no truth", with(3, 2).many(1, 1), DiagramOdds.OUTSIDE);
-        fill(x);
+        Check.due("7 the first bit of no truth", Check.with(3, 2).many(1, 1), DiagramOdds.OUTSIDE);
+        Check.fill(x);
         Check.due("7 no room", x.many(1, 1), DiagramOdds.ROOM);
         Check.due("7 OUTSIDE before ROOM", x.many(2, 1), DiagramOdds.OUTSIDE);
     }
 
     static void join() {
-        DiagramOdds x = with(2, 2);
+        DiagramOdds x = Check.with(2, 2);
         x.is(0, 1);
         x.is(1, 1);
         String[] rows = {"0001", "0111", "0110", "1101", "1001", "0010"};
         for (int op = 0; op < 6; op++) {
             Check.due("8 number of op " + op, x.join(op, 0, 1), op + 2);
-            Check.due("8 op " + op, row(x, op + 2, 2, 2), rows[op]);
+            Check.due("8 op " + op, Check.row(x, op + 2, 2, 2), rows[op]);
         }
-        Check.due("8 the other way round", row(x, x.join(3, 1, 0), 2, 2), "1011");
-        Check.due("8 one with itself", row(x, x.join(4, 0, 0), 2, 2), "1111");
+        Check.due("8 the other way round", Check.row(x, x.join(3, 1, 0), 2, 2), "1011");
+        Check.due("8 one with itself", Check.row(x, x.join(4, 0, 0), 2, 2), "1111");
         Check.due("8 no op", x.join(6, 0, 1), DiagramOdds.OUTSIDE);
         Check.due("8 no op, below", x.join(-1, 0, 1), DiagramOdds.OUTSIDE);
         Check.due("8 no first", x.join(6, 10, 1), DiagramOdds.UNKNOWN);
         Check.due("8 no second", x.join(6, 0, -1), DiagramOdds.UNKNOWN);
-        fill(x);
+        Check.fill(x);
         Check.due("8 no room", x.join(0, 0, 1), DiagramOdds.ROOM);
         Check.due("8 OUTSIDE before ROOM", x.join(6, 0, 1), DiagramOdds.OUTSIDE);
     }
 
     static void not() {
-        DiagramOdds x = with(3, 2);
+        DiagramOdds x = Check.with(3, 2);
         x.compare(0, 1, 1);
         Check.due("9 number", x.not(0), 1);
-        Check.due("9 row", row(x, 1, 3, 2), "101111");
+        Check.due("9 row", Check.row(x, 1, 3, 2), "101111");
         Check.due("9 twice", x.alike(x.not(1), 0), 1);
         Check.due("9 runs", x.runs(1), 5);
         Check.due("9 not there", x.not(3), DiagramOdds.UNKNOWN);
         Check.due("9 not there, below", x.not(-1), DiagramOdds.UNKNOWN);
-        fill(x);
+        Check.fill(x);
         Check.due("9 no room", x.not(0), DiagramOdds.ROOM);
         Check.due("9 UNKNOWN before ROOM", x.not(40), DiagramOdds.UNKNOWN);
     }
 
     static void choose() {
-        DiagramOdds x = with(2, 2, 2);
+        DiagramOdds x = Check.with(2, 2, 2);
         x.is(0, 1);
         x.is(1, 1);
         x.is(2, 1);
         Check.due("10 number", x.choose(0, 1, 2), 3);
-        Check.due("10 row", row(x, 3, 2, 2, 2), "01010011");
+        Check.due("10 row", Check.row(x, 3, 2, 2, 2), "01010011");
         Check.due("10 all the same", x.alike(x.choose(1, 2, 2), 2), 1);
         Check.due("10 no first", x.choose(5, 0, 0), DiagramOdds.UNKNOWN);
         Check.due("10 no second", x.choose(0, 5, 0), DiagramOdds.UNKNOWN);
         Check.due("10 no third", x.choose(0, 0, -1), DiagramOdds.UNKNOWN);
-        fill(x);
+        Check.fill(x);
         Check.due("10 no room", x.choose(0, 1, 2), DiagramOdds.ROOM);
         Check.due("10 UNKNOWN before ROOM", x.choose(0, 1, 40), DiagramOdds.UNKNOWN);
     }
 
     static void condition() {
-        DiagramOdds x = with(3, 3);
+        DiagramOdds x = Check.with(3, 3);
         x.compare(0, 1, 1);
         Check.due("11 number", x.condition(0, 0, 1), 1);
-        Check.due("11 row", row(x, 1, 3, 3), "001001001");
-        Check.due("11 of the other one", row(x, x.condition(0, 1, 1), 3, 3), "111000000");
+        Check.due("11 row", Check.row(x, 1, 3, 3), "001001001");
+        Check.due("11 of the other one", Check.row(x, x.condition(0, 1, 1), 3, 3), "111000000");
         Check.due("11 what it does not depend on", x.alike(x.condition(1, 0, 2), 1), 1);
         Check.due("11 no value", x.condition(0, 0, 3), DiagramOdds.OUTSIDE);
         Check.due("11 no value, below", x.condition(0, 0, -1), DiagramOdds.OUTSIDE);
         Check.due("11 no function", x.condition(9, 0, 9), DiagramOdds.UNKNOWN);
         Check.due("11 no variable", x.condition(0, 2, 9), DiagramOdds.UNKNOWN);
-        fill(x);
+        Check.fill(x);
         Check.due("11 no room", x.condition(0, 0, 0), DiagramOdds.ROOM);
         Check.due("11 OUTSIDE before ROOM", x.condition(0, 0, 3), DiagramOdds.OUTSIDE);
     }
 
     static void quantify() {
-        DiagramOdds x = with(3, 3);
+        DiagramOdds x = Check.with(3, 3);
         x.compare(0, 1, 2);
         Check.due("12 number", x.quantify(0, 0, true), 1);
-        Check.due("12 all", row(x, 1, 3, 3), "001001001");
-        Check.due("12 some", row(x, x.quantify(0, 0, false), 3, 3), "111111111");
-        Check.due("12 all of the other one", row(x, x.quantify(0, 1, true), 3, 3), "111000000");
+        Check.due("12 all", Check.row(x, 1, 3, 3), "001001001");
+        Check.due("12 some", Check.row(x, x.quantify(0, 0, false), 3, 3), "111111111");
+        Check.due("12 all of the other one", Check.row(x, x.quantify(0, 1, true), 3, 3), "111000000");
         x.compare(0, 1, 1);
-        Check.due("12 some, less", row(x, x.quantify(4, 1, false), 3, 3), "111111000");
-        Check.due("12 all, less", row(x, x.quantify(4, 1, true), 3, 3), "000000000");
-        Check.due("12 the function itself stays", row(x, 4, 3, 3), "011001000");
+        Check.due("12 some, less", Check.row(x, x.quantify(4, 1, false), 3, 3), "111111000");
+        Check.due("12 all, less", Check.row(x, x.quantify(4, 1, true), 3, 3), "000000000");
+        Check.due("12 the function itself stays", Check.row(x, 4, 3, 3), "011001000");
         Check.due("12 no function", x.quantify(7, 0, true), DiagramOdds.UNKNOWN);
         Check.due("12 no variable", x.quantify(0, 2, true), DiagramOdds.UNKNOWN);
         Check.due("12 no variable, below", x.quantify(0, -1, true), DiagramOdds.UNKNOWN);
-        fill(x);
+        Check.fill(x);
         Check.due("12 no room", x.quantify(0, 0, true), DiagramOdds.ROOM);
         Check.due("12 UNKNOWN before ROOM", x.quantify(0, 2, true), DiagramOdds.UNKNOWN);
     }
 
     static void substitute() {
-        DiagramOdds x = with(2, 3, 2);
+        DiagramOdds x = Check.with(2, 3, 2);
         x.is(0, 1);
         x.is(1, 2);
         x.join(2, 0, 1);
         Check.due("13 number", x.substitute(2, 0, 1), 3);
-        Check.due("13 odd with itself", row(x, 3, 2, 3, 2), "000000000000");
-        Check.due("13 by one that depends on the truth", row(x, x.substitute(0, 0, 2), 2, 3, 2), "000011111100");
+        Check.due("13 odd with itself", Check.row(x, 3, 2, 3, 2), "000000000000");
+        Check.due("13 by one that depends on the truth", Check.row(x, x.substitute(0, 0, 2), 2, 3, 2), "000011111100");
         x.is(2, 0);
         Check.due("13 by another one", x.alike(x.substitute(0, 0, 5), 5), 1);
         Check.due("13 where it does not matter", x.alike(x.substitute(1, 2, 0), 1), 1);
@@ -191,13 +161,13 @@ public final class FunctionTests {
         Check.due("13 no function", x.substitute(9, 1, 0), DiagramOdds.UNKNOWN);
         Check.due("13 no variable", x.substitute(0, 3, 0), DiagramOdds.UNKNOWN);
         Check.due("13 no other", x.substitute(0, 1, -1), DiagramOdds.UNKNOWN);
-        fill(x);
+        Check.fill(x);
         Check.due("13 no room", x.substitute(0, 0, 0), DiagramOdds.ROOM);
         Check.due("13 STATE before ROOM", x.substitute(0, 1, 0), DiagramOdds.STATE);
     }
 
     static void exchange() {
-        DiagramOdds x = with(3, 2, 3);
+        DiagramOdds x = Check.with(3, 2, 3);
         x.compare(0, 2, 1);
         Check.due("14 number", x.exchange(0, 0, 2), 1);
         Check.due("14 the other way round", x.alike(1, x.compare(2, 0, 1)), 1);
@@ -209,14 +179,14 @@ public final class FunctionTests {
         Check.due("14 no function", x.exchange(8, 0, 1), DiagramOdds.UNKNOWN);
         Check.due("14 no first", x.exchange(0, -1, 1), DiagramOdds.UNKNOWN);
         Check.due("14 no second", x.exchange(0, 1, 3), DiagramOdds.UNKNOWN);
-        fill(x);
+        Check.fill(x);
         Check.due("14 no room", x.exchange(0, 0, 2), DiagramOdds.ROOM);
         Check.due("14 STATE before ROOM", x.exchange(0, 0, 1), DiagramOdds.STATE);
     }
 
     /** What a variable that comes later is does not matter to the functions before. */
     static void laterVariables() {
-        DiagramOdds x = with(2);
+        DiagramOdds x = Check.with(2);
         x.is(0, 1);
         x.choice(5);
         x.choice(3);

@@ -15,10 +15,10 @@ public final class LanguageTests {
         "int choice(int)", "int weight(int,int,int)", "int rule(int,int,boolean)", "int is(int,int)",
         "int compare(int,int,int)", "int many(int,int)", "int join(int,int,int)", "int not(int)",
         "int choose(int,int,int)", "int condition(int,int,int)", "int quantify(int,int,boolean)",
-        "int substitute(int,int,int)", "int exchange(int,int,int)", "int feed(int,int,int,int,int)",
-        "void end(int)", "int read()", "int fault()", "int named()", "int runs(int)", "int alike(int,int)",
+        "int substitute(int,int,int)", "int exchange(int,int,int)", "int feed(int,int,int,int,int) throws IllegalStateException",
+        "void end(int) throws IllegalArgumentException", "int read()", "int fault()", "int named()", "int runs(int)", "int alike(int,int)",
         "int depends(int,int)", "int size(int)", "int ways(int)", "int least(int)", "long best(int)",
-        "int told(int)", "int odds(int,int)", "long part(boolean)", "long weigh(int)", "int enter(int)",
+        "int told(int)", "int odds(int,int) throws ArithmeticException", "long part(boolean)", "long weigh(int)", "int enter(int)",
         "int down(int)", "int here()", "int print(int)", "int printed(int)", "int place(int)",
         "int move(int,int)", "int seek()"};
     private static final String[] CONSTANTS = {"NONE", "UNKNOWN", "OUTSIDE", "STATE", "ROOM"};
@@ -29,7 +29,9 @@ public final class LanguageTests {
         StringBuilder text = new StringBuilder(method.getReturnType() + " " + method.getName() + "(");
         for (Class<?> type : method.getParameterTypes()) text.append(type).append(',');
         if (method.getParameterCount() > 0) text.setLength(text.length() - 1);
-        return text.append(')').toString();
+        text.append(')');
+        for (Class<?> thrown : method.getExceptionTypes()) text.append(" throws ").append(thrown.getSimpleName());
+        return text.toString();
     }
 
     static void members() {
@@ -44,6 +46,8 @@ public final class LanguageTests {
             if (!Modifier.isPrivate(field.getModifiers())) constants.add(field.getName());
         }
         Check.due("rule 1, constants", constants.toString(), new TreeSet<>(Set.of(CONSTANTS)).toString());
+        int[] values = {DiagramOdds.NONE, DiagramOdds.UNKNOWN, DiagramOdds.OUTSIDE, DiagramOdds.STATE, DiagramOdds.ROOM};
+        Check.due("values of the constants", java.util.Arrays.toString(values), "[-1, -101, -102, -103, -104]");
         Constructor<?>[] constructors = DiagramOdds.class.getDeclaredConstructors();
         Check.due("rule 1, constructors", constructors.length, 1);
         Check.due("rule 1, final", Modifier.isFinal(DiagramOdds.class.getModifiers()) ? 1 : 0, 1);

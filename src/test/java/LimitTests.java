@@ -26,6 +26,17 @@ public final class LimitTests {
 
     static String name(int i) { return "" + (char) ('a' + i / 26) + (char) ('a' + i % 26); }
 
+    /** Four functions in a text of 400 bytes at most, the later ones made of those before, too. */
+    static String four(Random random, int[] sizes, int first) {
+        StringBuilder text = new StringBuilder();
+        for (int i = first; i < first + 4; i++) {
+            text.append(name(i)).append(':').append(tangle(random, sizes, 56));
+            if (i > 1) text.append('^').append(name(i - 1)).append('&').append(name(random.nextInt(i - 1)));
+            text.append(';');
+        }
+        return text.toString();
+    }
+
     static void largest(int[] sizes, long seed) {
         Random random = new Random(seed);
         DiagramOdds x = new DiagramOdds();
@@ -34,9 +45,9 @@ public final class LimitTests {
             x.choice(size);
             o.choice(size);
         }
-        for (int i = 0; i < 40; i++) {
-            String text = name(i) + ":" + tangle(random, sizes, 340) + ";";
-            Check.due("read " + text, Check.read(x, text), 1);
+        for (int i = 0; i < 40; i += 4) {
+            String text = four(random, sizes, i);
+            Check.due("read " + text, Check.read(x, text), 4);
             o.tape = text;
             o.read();
         }
@@ -51,9 +62,8 @@ public final class LimitTests {
             Check.due("ways", x.ways(i), o.ways(i));
         }
         Check.due("print", x.print(7), o.print(7));
-        for (int i = 0; i < o.printed.length(); i++) {
-            if (x.printed(i) != o.printed(i)) Check.due("printed " + i, x.printed(i), o.printed(i));
-        }
+        int bytes = o.printed.length();
+        for (int i = bytes - 60; i <= bytes; i++) Check.due("printed " + i, x.printed(i), o.printed(i));
         for (int i = 0; i < 40; i++) Check.due("runs", x.runs(i), o.runs(i));
         // The oracle takes too long for a search of so much: what cannot change by one is looked at instead.
         int before = x.size(-1);
@@ -64,18 +74,18 @@ public final class LimitTests {
         for (int i = 0; i < 40; i++) Check.due("runs behind seek", x.runs(i), o.runs(i));
     }
 
-    /** As many of the dearest calls as there may be, on a fresh object. */
+    /** As many of the dearest calls as there may be, some 500, on a fresh object. */
     static long bytesOfARun(Random random) {
         com.sun.management.ThreadMXBean bean = (com.sun.management.ThreadMXBean) ManagementFactory.getThreadMXBean();
         int[] sizes = {2, 2, 2, 2, 2, 2, 2, 2, 2, 2};
-        String[] texts = new String[40];
-        for (int i = 0; i < 40; i++) texts[i] = name(i) + ":" + tangle(random, sizes, 340) + ";";
+        String[] texts = new String[10];
+        for (int i = 0; i < 10; i++) texts[i] = four(random, sizes, 4 * i);
         long thread = Thread.currentThread().getId();
         long before = bean.getThreadAllocatedBytes(thread);
         DiagramOdds x = new DiagramOdds();
         for (int size : sizes) x.choice(size);
-        for (int i = 0; i < 40; i++) Check.read(x, texts[i]);
-        for (int i = 0; i < 100; i++) {
+        for (String text : texts) Check.read(x, text);
+        for (int i = 0; i < 70; i++) {
             x.seek();
             x.print(i % 40);
             x.best(i % 40);

@@ -2,16 +2,14 @@
 public final class OrderTests {
     private OrderTests() { }
 
-    private static DiagramOdds with(int... sizes) { return FunctionTests.with(sizes); }
-
-    private static String order(DiagramOdds x, int variables) {
+    static String order(DiagramOdds x, int variables) {
         char[] order = new char[variables];
         for (int v = 0; v < variables; v++) order[x.place(v)] = (char) ('0' + v);
         return new String(order);
     }
 
     static void place() {
-        DiagramOdds x = with(2, 3, 2);
+        DiagramOdds x = Check.with(2, 3, 2);
         Check.due("36 as they are made", order(x, 3), "012");
         Check.due("36 not there", x.place(3), DiagramOdds.UNKNOWN);
         Check.due("36 not there, below", x.place(-1), DiagramOdds.UNKNOWN);
@@ -22,7 +20,7 @@ public final class OrderTests {
     }
 
     static void move() {
-        DiagramOdds x = with(2, 2, 2, 2, 2);
+        DiagramOdds x = Check.with(2, 2, 2, 2, 2);
         Check.due("37 no functions", x.move(1, 3), 0);
         Check.due("37 down", order(x, 5), "02314");
         x.move(4, 0);
@@ -41,7 +39,7 @@ public final class OrderTests {
     }
 
     static void sizes() {
-        DiagramOdds x = with(3, 3, 3, 3);
+        DiagramOdds x = Check.with(3, 3, 3, 3);
         int f = x.join(0, x.compare(0, 2, 0), x.compare(1, 3, 0));
         Check.due("37 before", x.size(f), 1 + 3 + 9 + 3);
         Check.due("37 side by side", x.move(2, 1), (1 + 3 + 1 + 3) + 3 + 1);
@@ -54,7 +52,7 @@ public final class OrderTests {
 
     /** Variables of different numbers of values pass one another, to and fro. */
     static void mixed() {
-        DiagramOdds x = with(2, 6, 3, 4);
+        DiagramOdds x = Check.with(2, 6, 3, 4);
         int f = x.join(2, x.compare(1, 3, 2), x.join(0, x.compare(2, 1, 0), x.is(0, 1)));
         String before = Check.printed(x, f);
         int size = x.size(-1);
@@ -71,17 +69,17 @@ public final class OrderTests {
     }
 
     static void seek() {
-        DiagramOdds x = with(2, 2, 2, 2);
+        DiagramOdds x = Check.with(2, 2, 2, 2);
         Check.due("38 no functions", x.seek(), 0);
         Check.due("38 each to the first place, as all are the same", order(x, 4), "3210");
-        DiagramOdds y = with(2, 2, 2, 2);
+        DiagramOdds y = Check.with(2, 2, 2, 2);
         y.join(0, y.compare(0, 2, 0), y.compare(1, 3, 0));
         y.move(2, 3);
         Check.due("38 a good one", y.seek(), 9);
         Check.due("38 its size", y.size(2), 6);
         Check.due("38 the runs stay", y.runs(2), 4);
         Check.due("38 again", y.seek(), 9);
-        DiagramOdds z = with(2, 2, 2, 2, 2, 2);
+        DiagramOdds z = Check.with(2, 2, 2, 2, 2, 2);
         for (int i = 0; i < 3; i++) z.join(0, z.is(i, 1), z.is(i + 3, 1));
         int f = z.join(1, 2, z.join(1, 5, 8));
         Check.due("38 three pairs, apart", z.size(f), 14);
@@ -111,7 +109,7 @@ public final class OrderTests {
     }
 
     private static DiagramOdds tangled(int seed) {
-        DiagramOdds x = with(2, 3, 2, 4, 2);
+        DiagramOdds x = Check.with(2, 3, 2, 4, 2);
         java.util.Random random = new java.util.Random(seed);
         for (int i = 0; i < 6; i++) x.compare(random.nextInt(5), random.nextInt(5), random.nextInt(3));
         for (int i = 6; i < 14; i++) x.join(random.nextInt(6), random.nextInt(i), random.nextInt(i));

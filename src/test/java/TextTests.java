@@ -2,16 +2,8 @@
 public final class TextTests {
     private TextTests() { }
 
-    private static String repeat(String text, int n) {
-        StringBuilder made = new StringBuilder();
-        for (int i = 0; i < n; i++) made.append(text);
-        return made.toString();
-    }
-
-    private static DiagramOdds with(int... sizes) { return FunctionTests.with(sizes); }
-
     static void feed() {
-        DiagramOdds x = with(2);
+        DiagramOdds x = Check.with(2);
         Check.due("15 twenty", x.feed(0x613a2330, 0x3b202020, 0x20202020, 0x20202020, 0x20202020), 20);
         Check.due("15 the highest byte first", x.read(), 1);
         Check.due("15 what was read", x.alike(0, x.is(0, 1)), 1);
@@ -25,7 +17,7 @@ public final class TextTests {
         Check.due("15 reading uses it up", x.feed(0, 0, 0, 0, 0), 20);
         x.end(3);
         Check.due("15 from the end on", x.feed(0, 0, 0, 0, 0), 23);
-        DiagramOdds y = with(2);
+        DiagramOdds y = Check.with(2);
         y.feed(0x20202020, 0x20202020, 0x20202020, 0x20202020, 0x2020ff20);
         Check.due("15 the last bytes, and one above 127", y.read(), -1018);
         Check.due("15 its kind", y.fault(), 1);
@@ -34,7 +26,7 @@ public final class TextTests {
     }
 
     static void end() {
-        DiagramOdds x = with(2);
+        DiagramOdds x = Check.with(2);
         Check.put(x, "a:#0;b:#1;");
         Check.due("16 more than there are", Check.throwsOf(() -> x.end(11)), "IllegalArgumentException");
         Check.due("16 below none", Check.throwsOf(() -> x.end(-1)), "IllegalArgumentException");
@@ -48,10 +40,10 @@ public final class TextTests {
     }
 
     static void meaning(String formula, String row) {
-        DiagramOdds x = with(2, 2, 3);
+        DiagramOdds x = Check.with(2, 2, 3);
         Check.due("17 " + formula, Check.read(x, "f:" + formula + ";"), 1);
         Check.due("17 no fault: " + formula, x.fault(), 0);
-        Check.due("17 " + formula, FunctionTests.row(x, 0, 2, 2, 3), row);
+        Check.due("17 " + formula, Check.row(x, 0, 2, 2, 3), row);
     }
 
     static void meanings() {
@@ -95,7 +87,7 @@ public final class TextTests {
 
     /** What is read left to right, and as long as can be. */
     static void tokens() {
-        DiagramOdds x = with(2, 2);
+        DiagramOdds x = Check.with(2, 2);
         Check.due("17 blanks", Check.read(x, "\n a\n:\n #\n0 &\n# 1 \n ;  \n"), 1);
         Check.due("17 a word that begins as another one", Check.read(x, "truex:#0;true1:#1;somea:#0;all0:#1;fals:#0;"), 5);
         Check.due("17 six bytes", Check.read(x, "abcde1:truex&true1;"), 1);
@@ -113,7 +105,7 @@ public final class TextTests {
     }
 
     static void names() {
-        DiagramOdds x = with(2, 2);
+        DiagramOdds x = Check.with(2, 2);
         Check.due("17 two", Check.read(x, "a:#0;b:a&#1;"), 2);
         Check.due("17 known in the same text", x.runs(1), 1);
         Check.due("17 known in a later text", Check.read(x, "c:a^b;"), 1);
@@ -129,7 +121,7 @@ public final class TextTests {
     }
 
     static void fault(String text, int place, int kind) {
-        DiagramOdds x = with(2, 4, 2);
+        DiagramOdds x = Check.with(2, 4, 2);
         Check.read(x, "old:#0;");
         Check.due("17 " + text, Check.read(x, text), -1000 - place);
         Check.due("18 " + text, x.fault(), kind);
@@ -237,35 +229,35 @@ public final class TextTests {
     }
 
     static void depth() {
-        DiagramOdds x = with(2);
-        Check.due("17 20 (", Check.read(x, "a:" + repeat("(", 20) + "#0" + repeat(")", 20) + ";"), 1);
-        Check.due("17 21 (", Check.read(x, "b:" + repeat("(", 21) + "#0" + repeat(")", 21) + ";"), -1022);
+        DiagramOdds x = Check.with(2);
+        Check.due("17 20 (", Check.read(x, "a:" + Check.repeat("(", 20) + "#0" + Check.repeat(")", 20) + ";"), 1);
+        Check.due("17 21 (", Check.read(x, "b:" + Check.repeat("(", 21) + "#0" + Check.repeat(")", 21) + ";"), -1022);
         Check.due("18 21 (", x.fault(), 5);
-        Check.due("17 20 !", Check.read(x, "b:" + repeat("!", 20) + "#0;"), 1);
-        Check.due("17 21 !", Check.read(x, "c:" + repeat("!", 21) + "#0;"), -1022);
+        Check.due("17 20 !", Check.read(x, "b:" + Check.repeat("!", 20) + "#0;"), 1);
+        Check.due("17 21 !", Check.read(x, "c:" + Check.repeat("!", 21) + "#0;"), -1022);
         Check.due("18 21 !", x.fault(), 5);
-        Check.due("17 20 some", Check.read(x, "c:" + repeat("some #0.", 20) + "#0;"), 1);
-        Check.due("17 21 some", Check.read(x, "d:" + repeat("some#0.", 20) + "all#0.#0;"), -1142);
+        Check.due("17 20 some", Check.read(x, "c:" + Check.repeat("some #0.", 20) + "#0;"), 1);
+        Check.due("17 21 some", Check.read(x, "d:" + Check.repeat("some#0.", 20) + "all#0.#0;"), -1142);
         Check.due("18 21 some", x.fault(), 5);
-        Check.due("17 of all kinds", Check.read(x, "d:" + repeat("!(some#0.all#0.", 5) + "#0" + repeat(")", 5) + ";"), 1);
-        Check.due("17 of all kinds, one more", Check.read(x, "e:" + repeat("!(some#0.all#0.", 5) + "!#0" + repeat(")", 5) + ";"), -1077);
-        Check.due("17 one beside another", Check.read(x, "e:" + repeat("!", 20) + "#0&" + repeat("(", 20) + "#0" + repeat(")", 20) + "&" + repeat("!", 20) + "#0;"), 1);
-        Check.due("17 more of them behind", Check.read(x, "g:(" + repeat("!", 19) + "#0&" + repeat("!", 19) + "#0)&" + repeat("!", 21) + "#0;"), -1068);
-        Check.due("17 the 21st where none can come", Check.read(x, "g:" + repeat("(", 20) + "#0("), -1024);
+        Check.due("17 of all kinds", Check.read(x, "d:" + Check.repeat("!(some#0.all#0.", 5) + "#0" + Check.repeat(")", 5) + ";"), 1);
+        Check.due("17 of all kinds, one more", Check.read(x, "e:" + Check.repeat("!(some#0.all#0.", 5) + "!#0" + Check.repeat(")", 5) + ";"), -1077);
+        Check.due("17 one beside another", Check.read(x, "e:" + Check.repeat("!", 20) + "#0&" + Check.repeat("(", 20) + "#0" + Check.repeat(")", 20) + "&" + Check.repeat("!", 20) + "#0;"), 1);
+        Check.due("17 more of them behind", Check.read(x, "g:(" + Check.repeat("!", 19) + "#0&" + Check.repeat("!", 19) + "#0)&" + Check.repeat("!", 21) + "#0;"), -1068);
+        Check.due("17 the 21st where none can come", Check.read(x, "g:" + Check.repeat("(", 20) + "#0("), -1024);
         Check.due("18 the 21st where none can come", x.fault(), 2);
-        Check.due("17 many => are not deep", Check.read(x, "g:#0" + repeat("=>#0", 90) + ";"), 1);
+        Check.due("17 many => are not deep", Check.read(x, "g:#0" + Check.repeat("=>#0", 90) + ";"), 1);
         Check.due("17 as they should be", x.runs(Check.named(x, "g")), 2);
-        Check.due("17 many &", Check.read(x, "h:#0" + repeat("&#0", 120) + ";"), 1);
-        String nested = repeat("true<=>(", 20);
-        Check.due("17 rows held open", Check.read(x, "i:" + repeat("#0<=>true=>false|false^true&(", 12) + "#0" + repeat(")", 12) + ";"), 1);
+        Check.due("17 many &", Check.read(x, "h:#0" + Check.repeat("&#0", 120) + ";"), 1);
+        String nested = Check.repeat("true<=>(", 20);
+        Check.due("17 rows held open", Check.read(x, "i:" + Check.repeat("#0<=>true=>false|false^true&(", 12) + "#0" + Check.repeat(")", 12) + ";"), 1);
         Check.due("17 what they are", x.alike(Check.named(x, "i"), 0), 1);
-        Check.due("17 rows held open to the right", Check.read(x, "j:" + nested + "#0" + repeat(")", 20) + ";"), 1);
+        Check.due("17 rows held open to the right", Check.read(x, "j:" + nested + "#0" + Check.repeat(")", 20) + ";"), 1);
         Check.due("17 what they are to the right", x.alike(Check.named(x, "j"), 0), 1);
     }
 
     /** As many rows are held open as a text can hold, each of another function. */
     static void rows() {
-        DiagramOdds x = with(2, 2, 3);
+        DiagramOdds x = Check.with(2, 2, 3);
         Oracle o = new Oracle();
         for (int size : new int[] {2, 2, 3}) o.choice(size);
         String names = "a:#0;b:#1;c:#2=0;d:#2=1;e:#0^#2=2;g:!#1;";
@@ -274,7 +266,7 @@ public final class TextTests {
         for (int i = 0; i < 20; i++) {
             for (String operator : new String[] {"<=>", "=>", "|", "^", "&("}) text.append("abcdeg".charAt(random.nextInt(6))).append(operator);
         }
-        text.append("a<=>b=>c|d^e&g").append(repeat(")", 20)).append(';');
+        text.append("a<=>b=>c|d^e&g").append(Check.repeat(")", 20)).append(';');
         for (String one : new String[] {names, text.toString()}) {
             o.tape = one;
             Check.due("17 rows held open", Check.read(x, one), o.read());
@@ -282,7 +274,7 @@ public final class TextTests {
         Check.due("17 what they come to", x.runs(6), o.runs(6));
         StringBuilder row = new StringBuilder();
         for (boolean so : o.functions.get(6)) row.append(so ? '1' : '0');
-        Check.due("17 for which runs", FunctionTests.row(x, 6, 2, 2, 3), row.toString());
+        Check.due("17 for which runs", Check.row(x, 6, 2, 2, 3), row.toString());
         openRows("a<=>b", "1001");
         openRows("t<=>a=>b", "1101");
         openRows("t<=>t=>a|b", "0111");
@@ -292,15 +284,15 @@ public final class TextTests {
 
     /** What stands around is as what stands inside, but holds five rows open at each depth. */
     private static void openRows(String inside, String row) {
-        DiagramOdds x = with(2, 2);
+        DiagramOdds x = Check.with(2, 2);
         Check.read(x, "a:#0;b:#1;t:true;z:false;");
-        Check.due("17 around " + inside, Check.read(x, "f:" + repeat("t<=>t=>z|z^t&(", 20) + inside + repeat(")", 20) + ";"), 1);
-        Check.due("17 runs around " + inside, FunctionTests.row(x, 4, 2, 2), row);
+        Check.due("17 around " + inside, Check.read(x, "f:" + Check.repeat("t<=>t=>z|z^t&(", 20) + inside + Check.repeat(")", 20) + ";"), 1);
+        Check.due("17 runs around " + inside, Check.row(x, 4, 2, 2), row);
     }
 
     /** Bytes behind the end do not count, whatever they are; and the tape may be full of tokens. */
     static void edges() {
-        DiagramOdds x = with(2, 2, 2, 2, 2, 2, 2, 2, 2, 2);
+        DiagramOdds x = Check.with(2, 2, 2, 2, 2, 2, 2, 2, 2, 2);
         Check.read(x, "ab:#0;");
         Check.put(x, "abc");
         x.end(2);
@@ -326,20 +318,20 @@ public final class TextTests {
         Check.put(x, "c:ab   ");
         x.end(5);
         Check.due("17 blanks behind the end", x.read(), -1005);
-        Check.due("17 400 tokens", Check.read(x, repeat(";", 400)), -1000);
-        Check.due("17 400 tokens behind a formula", Check.read(x, "c:#0" + repeat("&#1", 131) + ";" + repeat("(", 2)), -1398);
-        Check.due("17 the end behind 400 tokens", Check.read(x, "c:#0" + repeat("&#1", 132)), -1400);
+        Check.due("17 400 tokens", Check.read(x, Check.repeat(";", 400)), -1000);
+        Check.due("17 400 tokens behind a formula", Check.read(x, "c:#0" + Check.repeat("&#1", 131) + ";" + Check.repeat("(", 2)), -1398);
+        Check.due("17 the end behind 400 tokens", Check.read(x, "c:#0" + Check.repeat("&#1", 132)), -1400);
         Check.due("18 the end behind 400 tokens", x.fault(), 2);
-        Check.due("17 the end where a number should be", Check.read(x, "c:!!#0" + repeat("&#1", 131) + "="), -1400);
-        Check.due("17 the end where a variable should be", Check.read(x, "c:!!#0" + repeat("&#1", 131) + "#"), -1399);
-        Check.due("17 the end behind #", Check.read(x, "c:!#0" + repeat("&#1", 131) + "&#"), -1400);
-        Check.due("17 400 bytes", Check.read(x, "c:#0" + repeat("&#1", 131) + ";  "), 1);
-        Check.due("17 their end", Check.read(x, repeat(" ", 396) + "d:ab"), -1400);
+        Check.due("17 the end where a number should be", Check.read(x, "c:!!#0" + Check.repeat("&#1", 131) + "="), -1400);
+        Check.due("17 the end where a variable should be", Check.read(x, "c:!!#0" + Check.repeat("&#1", 131) + "#"), -1399);
+        Check.due("17 the end behind #", Check.read(x, "c:!#0" + Check.repeat("&#1", 131) + "&#"), -1400);
+        Check.due("17 400 bytes", Check.read(x, "c:#0" + Check.repeat("&#1", 131) + ";  "), 1);
+        Check.due("17 their end", Check.read(x, Check.repeat(" ", 396) + "d:ab"), -1400);
         Check.due("18 their end", x.fault(), 2);
     }
 
     static void room() {
-        DiagramOdds x = with(2);
+        DiagramOdds x = Check.with(2);
         for (int i = 0; i < 38; i++) x.is(0, 1);
         Check.due("17 the 41st", Check.read(x, "a:#0;b:#0; c:zz;"), -1011);
         Check.due("18 the 41st", x.fault(), 5);
@@ -354,7 +346,7 @@ public final class TextTests {
     }
 
     static void named() {
-        DiagramOdds x = with(2);
+        DiagramOdds x = Check.with(2);
         Check.read(x, "a:#0;abcdef:!#0;a1:#0;");
         Check.due("19 a", Check.named(x, "a"), 0);
         Check.due("19 six bytes, blanks around", Check.named(x, "\n abcdef \n"), 1);
