@@ -181,6 +181,8 @@ public final class DiagramEdgeTests {
         printed("one node", x, 0, "2:1(0,0,1)");
         printed("two nodes", x, 2, "2:0(0,3) 3:2(0,1)");
         printed("six values", x, 1, "2:0(3,4) 3:3(0,1,1,1,1,1) 4:3(0,0,1,1,1,1)");
+        printed("a part of that", x, x.is(2, 1), "2:2(0,1)");
+        printed("that again", x, 2, "2:0(0,3) 3:2(0,1)");
         DiagramOdds y = Check.with(3, 2, 2);
         int f = y.choose(y.is(0, 0), y.is(2, 1), y.choose(y.is(0, 1), y.is(1, 1), y.compare(1, 2, 0)));
         printed("as they are come to", y, f, "2:0(3,4,5) 3:2(0,1) 4:1(0,1) 5:1(6,3) 6:2(1,0)");
@@ -191,7 +193,7 @@ public final class DiagramEdgeTests {
         Edge.span("function of forty", Edge::mixedFull, (z, n) -> z.print(n), 0, 39, Edge.UNKNOWN);
     }
 
-    /** The highest numbers: 269 nodes are the most that a diagram of 1024 runs can have. */
+    /** Numbers of three digits: 1024 runs allow 269 nodes. */
     static void largest() {
         DiagramOdds x = Edge.tenTruths();
         Oracle o = new Oracle();

@@ -251,6 +251,7 @@ public final class FaultEdgeTests {
             Check.due("one stands where one stood", x.here(), 0);
             Check.due("no node", x.size(Edge.NONE), 1);
             Check.due("the next number", x.is(1, 0), 1);
+            Check.due("is what it is", x.runs(1), 2);
             Check.due("has not the name", Check.named(x, "b"), Edge.STATE);
             Check.due("which can be given", Check.read(x, "b:!#0;"), 1);
             Check.due("and is what it was given", x.alike(Check.named(x, "b"), x.not(0)), 1);

@@ -248,6 +248,22 @@ public final class FunctionEdgeTests {
         Check.due("for some it is so, for others not", Check.row(y, y.quantify(0, 1, false), 2, 2), "1100");
     }
 
+    /** The first and the last run of 1024, by the first and the last variable. */
+    static void mostRuns() {
+        DiagramOdds x = Edge.tenTruths();
+        int last = x.many(1023, 10), notFirst = x.many(1023, 1), truth = x.is(4, 1);
+        for (int v : new int[] {0, 9}) {
+            Check.due("some, of the last run", x.runs(x.quantify(last, v, false)), 2);
+            Check.due("all, of the last run", x.runs(x.quantify(last, v, true)), 0);
+            Check.due("some, of all but the first", x.runs(x.quantify(notFirst, v, false)), 1024);
+            Check.due("all, of all but the first", x.runs(x.quantify(notFirst, v, true)), 1022);
+            Check.due("the last run with 1", x.runs(x.condition(last, v, 1)), 2);
+            Check.due("the last run with 0", x.runs(x.condition(last, v, 0)), 0);
+            Check.due("the last run with another truth", x.runs(x.substitute(last, v, truth)), 2);
+        }
+        Check.due("the last run, exchanged", x.alike(x.exchange(last, 0, 9), last), 1);
+    }
+
     static void substitute() {
         Check.promise(13, "A function with another one in the place of a truth: so for a run, if the first one is so for that run "
             + "with the truth being 1 if the second one is so for that run, else 0.");
@@ -321,6 +337,7 @@ public final class FunctionEdgeTests {
         choose();
         condition();
         quantify();
+        mostRuns();
         substitute();
         exchange();
         Check.finish("functions at their bounds");

@@ -52,6 +52,27 @@ public final class OddsEdgeTests {
         odds("given just itself", x, one, one, "1 1/1");
     }
 
+    /** Numbers beyond an int, of all sizes and signs of what is between them and a half. */
+    static void large() {
+        DiagramOdds x = new DiagramOdds();
+        Oracle o = new Oracle();
+        for (int v = 0; v < 10; v++) {
+            x.choice(2);
+            o.choice(2);
+            for (int value = 0; value < 2; value++) {
+                x.weight(v, value, 30 - v - value);
+                o.weight(v, value, 30 - v - value);
+            }
+        }
+        for (int n = 0; n <= 11; n++) {
+            x.many(1023, n);
+            o.many(1023, n);
+            for (int given = -1; given < Math.min(n, 9); given += 3) {
+                odds(n + " at least, given " + given, x, n, given, o.odds(n, given) + " " + o.part(false) + "/" + o.part(true));
+            }
+        }
+    }
+
     private static void swapWeights(DiagramOdds x, int truth) {
         x.weight(truth, 1, x.weight(truth, 0, x.weight(truth, 1, 0)));
     }
@@ -124,6 +145,7 @@ public final class OddsEdgeTests {
     public static void main(String[] args) {
         lowestTerms();
         half();
+        large();
         thrown();
         unknown();
         part();
