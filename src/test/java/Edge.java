@@ -9,7 +9,7 @@ final class Edge {
 
     private Edge() { }
 
-    static boolean refused(long answer) { return answer <= UNKNOWN && answer >= ROOM; }
+    private static boolean refused(long answer) { return answer <= UNKNOWN && answer >= ROOM; }
 
     /** The first and the last number are taken; those beside them, and the farthest, are refused. Each on a new object. */
     static void span(String what, Maker maker, Call call, int first, int last, int refusal) {
@@ -30,8 +30,6 @@ final class Edge {
             return "throws." + e.getClass().getSimpleName();
         }
     }
-
-    static void due(String what, DiagramOdds x, Ask call, String want) { Check.due(what, answer(x, call), want); }
 
     /** Ten truths: as many variables, and runs, as there can be. */
     static DiagramOdds tenTruths() { return Check.with(2, 2, 2, 2, 2, 2, 2, 2, 2, 2); }
