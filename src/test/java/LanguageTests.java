@@ -61,10 +61,22 @@ public final class LanguageTests {
             for (Field field : inside.getDeclaredFields()) if (!Modifier.isStatic(field.getModifiers())) fields++;
             Check.due("rule 11, fields of " + inside, fields <= 20 ? 1 : 0, 1);
         }
+        Check.due("rule 11, classes", DiagramOdds.class.getDeclaredClasses().length <= 11 ? 1 : 0, 1);
+        for (Method method : DiagramOdds.class.getDeclaredMethods()) {
+            boolean named = Modifier.isPrivate(method.getModifiers()) && names.contains(method.getName());
+            Check.due("rule 1, name of " + method, named ? 1 : 0, 0);
+        }
         for (Field field : DiagramOdds.class.getDeclaredFields()) {
             boolean loose = Modifier.isStatic(field.getModifiers()) && !Modifier.isFinal(field.getModifiers());
             Check.due("rule 5, " + field, loose ? 1 : 0, 0);
         }
+    }
+
+    /** Each word that a pattern finds is one of those that are allowed. */
+    private static void only(String code, String what, String pattern, String allowed) {
+        Set<String> words = Set.of(allowed.split(" "));
+        Matcher matcher = Pattern.compile(pattern).matcher(code);
+        while (matcher.find()) Check.due(what + matcher.group(1), words.contains(matcher.group(1)) ? 1 : 0, 1);
     }
 
     static void source(Path path) throws java.io.IOException {
@@ -77,6 +89,16 @@ public final class LanguageTests {
             Matcher matcher = Pattern.compile(one).matcher(code);
             Check.due("source: " + one, matcher.find() ? 1 : 0, 0);
         }
+        only(code, "rule 4, Arrays.", "Arrays\\.(\\w+)", "copyOf copyOfRange fill");
+        only(code, "rule 4, Math. and Long.", "(?:Math|Long|Integer)\\.(\\w+)", "max min abs bitCount signum compare floorDiv floorMod");
+        only(code, "rule 6, new", "new (\\w+Exception)", "IllegalStateException IllegalArgumentException ArithmeticException");
+        Matcher methods = Pattern.compile("(?ms)^( +)(?:private|public) [^;={}]*\\) (?:throws \\w+ )?\\{\n(.*?)^\\1\\}").matcher(code);
+        int found = 0;
+        while (methods.find()) {
+            found++;
+            Check.due("rule 11, lines of " + methods.group(), methods.group(2).split("\n").length <= 60 ? 1 : 0, 1);
+        }
+        Check.due("rule 11, methods were found", found > 100 ? 1 : 0, 1);
         Matcher imports = Pattern.compile("(?m)^import (.*);").matcher(text);
         while (imports.find()) Check.due("rule 4, import", imports.group(1), "java.util.Arrays");
     }

@@ -74,6 +74,36 @@ public final class LimitTests {
         for (int i = 0; i < 40; i++) Check.due("runs behind seek", x.runs(i), o.runs(i));
     }
 
+    /** So if variable 2 has one of some values, given as bits. */
+    static String within(int values) {
+        StringBuilder text = new StringBuilder("(false");
+        for (int i = 0; i < 6; i++) if ((values >> i & 1) != 0) text.append("|#2=").append(i);
+        return text.append(')').toString();
+    }
+
+    static void give(DiagramOdds x, Oracle o, String text) {
+        Check.due("read " + text, Check.read(x, text), 1);
+        o.tape = text;
+        o.read();
+    }
+
+    /** One exchange of neighbours makes six nodes of one: behind whatever number of nodes, there must be places for them. */
+    static void turning(int more, boolean odd) {
+        DiagramOdds x = Check.with(2, 6, 6, 2);
+        Oracle o = new Oracle();
+        for (int size : new int[] {2, 6, 6, 2}) o.choice(size);
+        StringBuilder text = new StringBuilder("first:false");
+        for (int i = 0; i < 6; i++) text.append("|#1=" + i + "&(#0&#2=" + i + "|!#0&#2=" + (i + 1) % 6 + ")");
+        give(x, o, text.append(';').toString());
+        if (odd) give(x, o, "odd:#3;");
+        // Two nodes each: one of variable 2, and one ahead of it. The last one made is of the first variable.
+        for (int i = 0; i < more; i++) give(x, o, name(i) + ":" + ((more - i) % 2 == 1 ? "#0&" : "#1=5&") + within(3 + 2 * i) + ";");
+        int nodes = 9 + 2 * more + (odd ? 1 : 0);
+        Check.due("size of all", x.size(-1), nodes);
+        Check.due("move(1, 0) behind " + nodes + " nodes", x.move(1, 0), o.move(1, 0));
+        Check.due("move(0, 3) behind it", x.move(0, 3), o.move(0, 3));
+    }
+
     /** As many of the dearest calls as there may be, some 500, on a fresh object. */
     static long bytesOfARun(Random random) {
         com.sun.management.ThreadMXBean bean = (com.sun.management.ThreadMXBean) ManagementFactory.getThreadMXBean();
@@ -100,6 +130,10 @@ public final class LimitTests {
         largest(new int[] {6, 5, 4, 3, 2}, 3);
         largest(new int[] {6, 6, 6, 4}, 4);
         largest(new int[] {2, 2, 2, 2, 2, 5, 6}, 5);
+        for (int more = 22; more <= 26; more++) {
+            turning(more, false);
+            turning(more, true);
+        }
         long bytes = bytesOfARun(new Random(6));
         Check.due("bytes of a run: " + bytes, bytes < MOST_BYTES_OF_A_RUN ? 1 : 0, 1);
         Check.finish("limits");
